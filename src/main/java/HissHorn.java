@@ -56,7 +56,7 @@ public final class HissHorn {
 
     public HissHorn() {
         tape = new Tape();
-        parser = new Parser();
+        parser = new Parser(tape);
         laws = new Shelf("dahewl", LAWS);
         guesses = new Shelf("la", 6);
         rules = new Shelf("ngbkt", 6);
@@ -101,12 +101,12 @@ public final class HissHorn {
 
     public int fault(int sort) {
         Shelf shelf = shelfOf(sort);
-        return shelf == null ? NO_SUCH : parser.faultIn(tape, shelf.letters);
+        return shelf == null ? NO_SUCH : parser.faultBy(shelf.letters);
     }
 
     public int text(int sort) {
         Shelf shelf = shelfOf(sort);
-        if (shelf == null || shelf.isFull() || parser.faultIn(tape, shelf.letters) != NONE) {
+        if (shelf == null || shelf.isFull() || parser.faultBy(shelf.letters) != NONE) {
             return NONE;
         }
         tape.length = 0;
@@ -524,21 +524,24 @@ public final class HissHorn {
     }
 
     /**
-     * Finds the FAULT of a TAPE and, where there is none, the rows of a Text. Each method that answers false leaves
-     * the first byte at which no text can go on under {@code at}.
+     * Finds the FAULT of the TAPE and, where there is none, the rows of a Text. Where a method answers false, the byte
+     * that it stopped at is the first one at which no text can go on.
      */
     static final class Parser {
         private static final int DEEPEST = 6;
         private static final int MOST_DIGITS = 4;
         private static final int END = 0;
         private final int[] code = new int[Tape.LONGEST + 1];
+        private final Tape tape;
         private int size;
-        private Tape tape;
         private String letters = "";
         private int at;
 
-        int faultIn(Tape tape, String letters) {
+        Parser(Tape tape) {
             this.tape = tape;
+        }
+
+        int faultBy(String letters) {
             this.letters = letters;
             at = 0;
             size = 0;
@@ -773,22 +776,22 @@ public final class HissHorn {
                     return 0;
                 } else {
                     top--;
-                    stack[top - 1] = join(sign, stack[top - 1], stack[top]);
+                    stack[top - 1] = bounded(join(sign, stack[top - 1], stack[top]));
                 }
             }
             return 0;
         }
 
-        private static int join(int sign, long x, long y) {
+        private static long join(int sign, long x, long y) {
             switch (sign) {
                 case '+':
-                    return bounded(x + y);
+                    return x + y;
                 case '-':
-                    return bounded(x - y);
+                    return x - y;
                 case '*':
-                    return bounded(x * y);
+                    return x * y;
                 case '/':
-                    return y == 0 ? 0 : bounded(x / y);
+                    return y == 0 ? 0 : x / y;
                 case '=':
                     return x == y ? 1 : 0;
                 case '<':
@@ -854,7 +857,8 @@ public final class HissHorn {
         }
 
         int ask(int number) {
-            return has(number) ? texts[number].worthBy(values, stack) : 0;
+            Text text = has(number) ? texts[number] : null;
+            return text == null ? 0 : text.worthBy(values, stack);
         }
     }
 
@@ -1086,15 +1090,18 @@ public final class HissHorn {
 
         /** Of the greatest mean from the least, as last sorted. */
         int distance() {
-            long least = Long.MAX_VALUE;
-            long greatest = Long.MIN_VALUE;
+            long least = 0;
+            long greatest = 0;
+            boolean some = false;
             for (int i = 0; i < VALUES; i++) {
                 if (many[i] > 0) {
-                    least = Math.min(least, middles[i] / many[i]);
-                    greatest = Math.max(greatest, middles[i] / many[i]);
+                    long mean = middles[i] / many[i];
+                    least = some ? Math.min(least, mean) : mean;
+                    greatest = some ? Math.max(greatest, mean) : mean;
+                    some = true;
                 }
             }
-            return least > greatest ? 0 : (int) (greatest - least);
+            return (int) (greatest - least);
         }
 
         /** Behind a sorting by direction. */
@@ -1392,7 +1399,7 @@ public final class HissHorn {
         }
 
         void search(int coin) {
-            bestWidth = Integer.MAX_VALUE;
+            bestWidth = rowWidth;
             bestCoin = NONE;
             bestBits = 0;
             choose(0, coin, rowWidth, 0);
@@ -1450,6 +1457,8 @@ public final class HissHorn {
         private final int[] paperTo = new int[PAPERS];
         /** Of each PRINT that HAS it: the FORETOLD ones that it meets. */
         private final long[] meets = new long[PRINTS];
+        /** All that meets something: the rest never makes two MET. */
+        long matters;
         private final long[] told = new long[(LAST_DAY + 1) * HOUSES];
         private final long[] known = new long[(LAST_DAY + 1) * HOUSES];
         /** How many DAYS' ends stand in known. */
@@ -1500,6 +1509,7 @@ public final class HissHorn {
             boolean common = printFrom[print] <= paperTo[paper] && paperFrom[paper] <= printTo[print];
             if (printFrom[print] > 0 && common) {
                 meets[print] |= paperBit(paper);
+                matters |= printBit(print) | paperBit(paper);
             }
         }
 
@@ -1563,7 +1573,7 @@ public final class HissHorn {
 
         /** Whether a HOUSE that knows these has MET. */
         boolean areMet(long bits) {
-            if (bits >> PRINTS == 0) {
+            if ((bits & matters) >> PRINTS == 0) {
                 return false;
             }
             for (int i = 0; i < prints; i++) {
@@ -1612,8 +1622,8 @@ public final class HissHorn {
             int bound = limit;
             for (int day = 1; day < bound; day++) {
                 for (int from = 0; from < houses.size; from++) {
-                    long gift = houses.knownBy(from, day - 1);
-                    if (gift != houses.knownBy(from, day - 2)) {
+                    long gift = houses.knownBy(from, day - 1) & houses.matters;
+                    if (gift != (houses.knownBy(from, day - 2) & houses.matters)) {
                         bound = tryAll(day, from, gift, bound);
                     }
                 }
