@@ -37,6 +37,18 @@ public final class GuessTest {
         fit(horn, -1, 1, -1, -1, -1);
         fit(horn, 0, 3, -1, -1, -1);
         fit(horn, 0, -1, -1, -1, -1);
+        HissHorn ends = new HissHorn();
+        Due.text(ends, 0, "y:100");
+        Due.text(ends, 1, "y:a");
+        ends.part(0, 0, 10, 0);
+        ends.read(0, 0, 0, 0, 1, 30);
+        fit(ends, 0, 0, 20, 30, 11);
+        ends.read(0, 0, 0, 0, 1, 25);
+        fit(ends, 0, 0, 20, 25, 6);
+        ends.read(0, 0, 0, 0, 1, 32);
+        fit(ends, 0, 0, 22, 25, 4);
+        ends.read(0, 0, 0, 0, 40, 33);
+        fit(ends, 0, 0, 23, 25, 3);
         Due.is("fits with what 3", horn.fits(0, 1, 3), -1);
         Due.is("fits with what -1", horn.fits(0, 1, -1), -1);
     }
@@ -62,7 +74,9 @@ public final class GuessTest {
         next(horn, 2, 0, 1, -1, -1);
         next(horn, 2, 0, 0, 1, 9999);
         next(horn, 0, 3, 1, -1, -1);
+        next(horn, 3, 0, 1, -1, -1);
         next(horn, -1, 0, 1, -1, -1);
+        next(horn, 0, -1, 1, -1, -1);
         next(horn, 0, 1, 2, -1, -1);
         next(horn, 0, 1, -1, -1, -1);
         Due.is("next with what 2", horn.next(0, 1, 1, 2), -1);
@@ -94,6 +108,14 @@ public final class GuessTest {
         Due.is("g by what was known", said(horn, "y:g"), 3);
         Due.is("k and t", said(horn, "y:k*[t-7]"), 8);
         Due.is("g, there being none at last", said(horn, "y:k=1&b=0&g=0?0-1"), 7);
+        HissHorn wide = new HissHorn();
+        Due.text(wide, 0, "y:100");
+        wide.part(0, 10, 50, 0);
+        wide.read(0, 0, 0, 0, 1, 100);
+        wide.days(1);
+        Due.is("g on DAY 0", said(wide, "y:g=40?1"), 0);
+        Due.is("b on DAY 0", said(wide, "y:b=50?1"), 0);
+        Due.is("n and k on DAY 0", said(wide, "y:n=1&k=0&t=0?1"), 0);
         HissHorn other = new HissHorn();
         other.days(60);
         other.days(60);

@@ -53,6 +53,10 @@ public final class HouseTest {
         horn.days(1);
         horn.print(0, false, 1, 1);
         horn.print(0, false, -400, -1);
+        HissHorn one = horn(1);
+        one.print(0, false, 1, 1);
+        Due.is("had of the first PRINT", one.had(0, 0), 1);
+        Due.is("could have had of none", one.had(0, 1), 0);
         Due.is("had(1, 0)", horn.had(1, 0), 1);
         Due.is("had(1, 1)", horn.had(1, 1), 1);
         Due.is("had(0, 0)", horn.had(0, 0), 0);
@@ -121,6 +125,17 @@ public final class HouseTest {
         Due.is("met by a LETTER, at the edge of both spans", horn.met(), 3);
         horn.days(5);
         Due.is("met stays", horn.met(), 3);
+        HissHorn first = horn(1);
+        first.print(0, true, 300, 400);
+        first.print(0, false, 1, 1);
+        first.print(0, true, 1, 5);
+        Due.is("met on DAY 0", first.met(), 0);
+        HissHorn cross = horn(2);
+        cross.print(0, false, 1, 1);
+        cross.print(0, true, 2, 2);
+        cross.print(1, false, 2, 2);
+        cross.print(1, true, 1, 1);
+        Due.is("each HOUSE has what the other lacks", cross.met(), -1);
         HissHorn own = horn(1);
         own.days(7);
         own.print(0, true, 5, 5);

@@ -99,7 +99,16 @@ public final class LookTest {
         flat.read(0, 0, 0, 0, 1, 0);
         flat.look(1, 40, 60, 1);
         flat.done(0);
+        flat.look(0, 10, 400, 1);
         Due.is("a LOOK that narrows nothing heard is yet not FOR NOTHING", flat.nothing(), 0);
+        HissHorn first = horn();
+        first.look(0, 10, 50, 1);
+        first.look(0, 50, 60, 1);
+        first.done(0);
+        Due.is("the first LOOK FOR NOTHING", first.nothing(), 1);
+        first.done(1);
+        Due.is("one number in common is not nothing", first.span(0, 0, 0), 50);
+        Due.is("nor is it wider", first.span(0, 0, 1), 50);
         Due.is("narrows where its LAW is 0", flat.narrows(0, 0), 0);
     }
 
@@ -117,6 +126,7 @@ public final class LookTest {
         horn.look(1, 0, 70, 3);
         horn.look(1, 30, 100, 2);
         horn.look(0, 40, 50, 5);
+        plan(horn, 0, 0, 140);
         plan(horn, 1, 0, 140);
         plan(horn, 2, 4, 110);
         plan(horn, 3, 4, 110);

@@ -149,6 +149,16 @@ public final class ReadingTest {
         Due.is("even with 2", horn.even(30, 2), HIDDEN);
         Due.is("even with -1", horn.even(30, -1), HIDDEN);
         Due.is("even in DAY 31", horn.even(31, 0), HIDDEN);
+        HissHorn sides = new HissHorn();
+        sides.read(8, 0, 0, 0, 1, 10);
+        sides.read(8, 0, 0, 0, 1, 20);
+        sides.read(7, 0, 0, 0, 1, 100);
+        Due.is("one side of none 8 apart", sides.even(0, 1), HIDDEN);
+        sides.read(0, 0, 0, 0, 1, -5);
+        Due.is("one side of 0 and 8", sides.even(0, 1), 20);
+        sides.read(15, 0, 0, 0, 1, 160);
+        Due.is("one side of 7 and 15", sides.even(0, 1), 60);
+        Due.is("even of four", sides.even(0, 0), 165);
         HissHorn wide = new HissHorn();
         Due.text(wide, 0, "y:100");
         wide.part(0, 0, 5, 0);
@@ -193,6 +203,48 @@ public final class ReadingTest {
         could(falling, 0, 0, 7, 7);
     }
 
+    /** READINGS that are too low, and SPANS that are not 0 .. 0. */
+    private static void setsBelow() {
+        HissHorn horn = new HissHorn();
+        Due.text(horn, 0, "y:100");
+        Due.text(horn, 0, "y:0-100");
+        Due.text(horn, 0, "y:d*100");
+        horn.part(0, 100, 200, 0);
+        horn.part(1, 50, 60, 0);
+        horn.part(2, 10, 30, 0);
+        horn.read(0, 0, 0, 0, 1, 40);
+        Due.is("sets, at the lower end of all", horn.sets(0), 0);
+        horn.read(0, 0, 0, 0, 1, 39);
+        Due.is("sets of the lowest of two", horn.sets(0), 1);
+        horn.read(0, 0, 0, 0, 1, -60);
+        Due.is("sets of the lowest at its end", horn.sets(0), 1);
+        horn.read(0, 0, 0, 0, 1, -61);
+        Due.is("sets of the second", horn.sets(0), 2);
+        horn.read(0, 0, 0, 0, 1, -300);
+        Due.is("sets of the second at its end", horn.sets(0), 2);
+        horn.read(0, 0, 0, 0, 1, -301);
+        Due.is("sets of two", horn.sets(0), 3);
+        horn.read(0, 0, 0, 0, 1, -401);
+        Due.is("no sets", horn.sets(0), -1);
+        HissHorn high = new HissHorn();
+        Due.text(high, 0, "y:100");
+        Due.text(high, 0, "y:200");
+        high.part(0, 100, 200, 0);
+        high.part(1, 300, 350, 0);
+        high.read(0, 0, 0, 0, 1, 900);
+        Due.is("sets, at the upper end of all", high.sets(0), 0);
+        high.read(0, 0, 0, 0, 1, 1000);
+        Due.is("sets, as much as one or the other", high.sets(0), 1);
+        high.read(0, 0, 0, 0, 1, 1100);
+        Due.is("sets of one at its end", high.sets(0), 1);
+        high.read(0, 0, 0, 0, 1, 1101);
+        Due.is("sets of both", high.sets(0), 3);
+        high.read(0, 0, 0, 0, 1, 1200);
+        Due.is("sets of both at their ends", high.sets(0), 3);
+        high.read(0, 0, 0, 0, 1, 1201);
+        Due.is("no sets so high", high.sets(0), -1);
+    }
+
     private static void sets() {
         HissHorn horn = new HissHorn();
         Due.is("sets of nothing", horn.sets(0), 0);
@@ -221,5 +273,6 @@ public final class ReadingTest {
         Due.is("sets with one that shines everywhere", horn.sets(3), 9);
         Due.is("sets in DAY 4", horn.sets(4), -1);
         Due.is("sets in DAY -1", horn.sets(-1), -1);
+        setsBelow();
     }
 }

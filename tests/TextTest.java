@@ -32,9 +32,21 @@ public final class TextTest {
         Due.is("feed of nothing at 120", horn.feed(0, 0, 0, 0, 0), 120);
         Due.is("end(119)", horn.end(119), true);
         Due.is("feed of two at 119", horn.feed(1, 1, 0, 0, 0), -1);
+        for (int i = 0; i < 5; i++) {
+            int[] words = new int[5];
+            words[i] = 0x01000001;
+            Due.is("feed of two in one", horn.feed(words[0], words[1], words[2], words[3], words[4]), -1);
+        }
         Due.is("count behind a refused feed", horn.count(13), 119);
         Due.is("feed of one at 119", horn.feed(0, 0, 1, 0, 0), 120);
         Due.is("fault of bytes of 255", horn.fault(0), 0);
+        Due.fault(horn, 0, "y:12345678");
+        horn.end(4);
+        Due.is("what was cut off counts no more", horn.text(0), 0);
+        Due.is("worth of y:12", Due.worth(horn, 0, 0, 0, 0, 0, 0, 1), 12);
+        Due.fault(horn, 0, "y:1   1");
+        horn.end(3);
+        Due.is("nor do blanks", horn.fault(0), -1);
     }
 
     private static void fault(int sort, String text, int want) {
@@ -205,6 +217,16 @@ public final class TextTest {
         worth("y:d=15|d=14&a=1?1;y:2", 1);
         worth("y:(d=15|d=14)&a=1?1;y:2", 2);
         worth("y:a+1=10?a*2", 18);
+        worth("y:d=1|d=2?1;y:2", 2);
+        worth("y:d=1|d=15?1;y:2", 1);
+        worth("y:d=15|d=1?1;y:2", 1);
+        worth("y:d=15&a=9?1;y:2", 1);
+        worth("y:!(d=15&a=9)?1;y:2", 2);
+        worth("y:!(d=15|a=9)?1;y:2", 2);
+        worth("y:!(d=1|a=1)?1;y:2", 1);
+        worth("y:!d>14?1;y:2", 2);
+        worth("y:!d<16?1;y:2", 2);
+        worth("y:1+1+1+1+1+1+1+1+1+1+1+1+1+1+1+1+1+1+1+1+1+1+1+1+1+1+1+1+1+1+1+1+1+1+1+1+1+1+1+1+1+1+1+1", 44);
         worth("y:d=1?5;y:7;y:9", 7);
     }
 }
