@@ -586,98 +586,92 @@ public final class HissHorn {
             return true;
         }
 
-        /** begun: the SUM that its first UNIT begins with has been read. */
+        /**
+         * Goes from UNIT to UNIT: an & is emitted behind the UNIT that it joins, a | behind the last UNIT of the TRUTH
+         * that it joins. begun: the SUM that the first UNIT begins with has been read.
+         */
         private boolean condition(int depth, boolean begun) {
-            if (!truth(depth, begun)) {
-                return false;
-            }
-            for (int rest = tape.length; rest > 0 && takes('|'); rest--) {
-                if (!truth(depth, false)) {
+            int or = END;
+            int and = END;
+            for (int units = 0; units <= tape.length; units++) {
+                if (!unit(depth, begun && units == 0)) {
                     return false;
                 }
-                emit('|', 0);
-            }
-            return true;
-        }
-
-        private boolean truth(int depth, boolean begun) {
-            if (!unit(depth, begun)) {
-                return false;
-            }
-            for (int rest = tape.length; rest > 0 && takes('&'); rest--) {
-                if (!unit(depth, false)) {
-                    return false;
+                emit(and, 0);
+                int sign = peek();
+                and = sign == '&' ? sign : END;
+                if (and == END) {
+                    emit(or, 0);
+                    or = sign == '|' ? sign : END;
+                    if (or == END) {
+                        return true;
+                    }
                 }
-                emit('&', 0);
+                at++;
             }
-            return true;
+            return false;
         }
 
         private boolean unit(int depth, boolean begun) {
-            if (!begun) {
-                if (opens('!', depth)) {
-                    boolean sound = unit(depth + 1, false);
-                    emit('!', 0);
-                    return sound;
-                }
-                if (opens('(', depth)) {
-                    return condition(depth + 1, false) && takes(')');
-                }
-                if (!total(depth)) {
-                    return false;
-                }
-            }
             int sign = peek();
-            if (!compares(sign)) {
+            if (!begun && depth < DEEPEST && sign == '!') {
+                at++;
+                boolean sound = unit(depth + 1, false);
+                emit(sign, 0);
+                return sound;
+            }
+            if (!begun && depth < DEEPEST && sign == '(') {
+                at++;
+                return condition(depth + 1, false) && takes(')');
+            }
+            if (!begun && !total(depth)) {
+                return false;
+            }
+            int comparison = peek();
+            if (!compares(comparison)) {
                 return false;
             }
             at++;
             boolean sound = total(depth);
-            emit(sign, 0);
+            emit(comparison, 0);
             return sound;
         }
 
+        /** Goes from ATOM to ATOM, as condition does from UNIT to UNIT. */
         private boolean total(int depth) {
-            if (!product(depth)) {
-                return false;
-            }
-            int sign = peek();
-            for (int rest = tape.length; rest > 0 && (sign == '+' || sign == '-'); rest--) {
-                at++;
-                if (!product(depth)) {
-                    return false;
-                }
-                emit(sign, 0);
-                sign = peek();
-            }
-            return true;
-        }
-
-        private boolean product(int depth) {
-            if (!atom(depth)) {
-                return false;
-            }
-            int sign = peek();
-            for (int rest = tape.length; rest > 0 && (sign == '*' || sign == '/'); rest--) {
-                at++;
+            int plus = END;
+            int times = END;
+            for (int atoms = 0; atoms <= tape.length; atoms++) {
                 if (!atom(depth)) {
                     return false;
                 }
-                emit(sign, 0);
-                sign = peek();
+                emit(times, 0);
+                int sign = peek();
+                times = sign == '*' || sign == '/' ? sign : END;
+                if (times == END) {
+                    emit(plus, 0);
+                    plus = sign == '+' || sign == '-' ? sign : END;
+                    if (plus == END) {
+                        return true;
+                    }
+                }
+                at++;
             }
-            return true;
+            return false;
         }
 
         private boolean atom(int depth) {
-            if (opens('[', depth)) {
+            int sign = peek();
+            if (sign == '[' && depth < DEEPEST) {
+                at++;
                 return total(depth + 1) && takes(']');
             }
-            int sign = peek();
-            if (isDigit(sign)) {
-                return number();
+            if (sign >= '0' && sign <= '9') {
+                int value = number();
+                emit(Text.NUMBER, value);
+                return value != NONE;
             }
-            int letter = sign == END ? -1 : letters.indexOf((char) sign);
+            int letter = sign == END ? NONE : letters.indexOf((char) sign);
             if (letter < 0) {
                 return false;
             }
@@ -686,23 +680,21 @@ public final class HissHorn {
             return true;
         }
 
-        private boolean number() {
+        /** NONE, where it has a digit too many. */
+        private int number() {
             int value = 0;
-            int digits = 0;
-            while (at < tape.length && isDigit(tape.bytes[at])) {
-                if (digits == MOST_DIGITS) {
-                    return false;
+            for (int digits = 0; digits <= MOST_DIGITS; digits++) {
+                int sign = at < tape.length ? tape.bytes[at] : END;
+                if (sign < '0' || sign > '9') {
+                    return value;
                 }
-                value = value * 10 + tape.bytes[at] - '0';
-                digits++;
+                if (digits == MOST_DIGITS) {
+                    return NONE;
+                }
+                value = value * 10 + sign - '0';
                 at++;
             }
-            emit(Text.NUMBER, value);
-            return true;
-        }
-
-        private boolean opens(char sign, int depth) {
-            return depth < DEEPEST && takes(sign);
+            return NONE;
         }
 
         private boolean takes(char sign) {
@@ -724,12 +716,9 @@ public final class HissHorn {
             return sign == '=' || sign == '<' || sign == '>';
         }
 
-        private static boolean isDigit(int sign) {
-            return sign >= '0' && sign <= '9';
-        }
-
+        /** The end is no sign. */
         private void emit(int sign, int with) {
-            if (size < code.length) {
+            if (sign != END && size < code.length) {
                 code[size] = with << Text.SIGN_BITS | sign;
                 size++;
             }
