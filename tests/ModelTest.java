@@ -1,17 +1,12 @@
-import java.lang.reflect.InvocationTargetException;
-import java.lang.reflect.Method;
 import java.util.Arrays;
 import java.util.HashMap;
 import java.util.Map;
-import java.util.NoSuchElementException;
 
 /**
  * All promises: drawn runs of calls, each answered by HissHorn as by the naive model. Arguments: how many runs, and
  * the first run's seed.
  */
 public final class ModelTest {
-    private static final Map<String, Method> FACE = new HashMap<>();
-    private static final Map<String, Method> NAIVE = new HashMap<>();
     private static final String[] TELLING = {"days", "text", "text", "part", "read", "read", "read", "look", "done",
         "clean", "house", "print", "print", "letter"};
     private static final String[] OTHERS = {"fault", "worth", "span", "sum", "heard", "left", "most", "alike", "goes",
@@ -22,7 +17,6 @@ public final class ModelTest {
     private final HissHorn horn = new HissHorn();
     private final Model model = new Model();
     private final long seed;
-    private final StringBuilder run = new StringBuilder();
     /** How loud the run is, how long its rests are, and what it tells most. */
     private final int loud;
     private final int rest;
@@ -46,14 +40,6 @@ public final class ModelTest {
     public static void main(String[] args) {
         int runs = args.length > 0 ? Integer.parseInt(args[0]) : 150;
         long first = args.length > 1 ? Long.parseLong(args[1]) : 1;
-        for (Method method : HissHorn.class.getDeclaredMethods()) {
-            if (java.lang.reflect.Modifier.isPublic(method.getModifiers())) FACE.put(method.getName(), method);
-        }
-        for (Method method : Model.class.getDeclaredMethods()) {
-            if (FACE.containsKey(method.getName()) && java.lang.reflect.Modifier.isPublic(method.getModifiers())) {
-                NAIVE.put(method.getName(), method);
-            }
-        }
         Map<String, Integer> answers = new HashMap<>();
         for (int i = 0; i < runs; i++) new ModelTest(first + i).go(answers);
         if (args.length > 2) answers.forEach((name, n) -> System.out.println(name + " " + n));
@@ -64,15 +50,14 @@ public final class ModelTest {
         while (calls < 500) {
             String name = draw();
             if (name.equals("text") || name.equals("fault")) putText();
-            Object[] arguments = arguments(name);
-            long want = call(NAIVE.get(name), model, arguments);
-            long got = call(FACE.get(name), horn, arguments);
+            Call call = new Call(name, arguments(name));
+            long want = call.of(model);
+            long got = call.of(horn);
             answers.merge(name + (want == -1 || want == -100000000 || want == -2 ? " refused" : " told"), 1,
                 Integer::sum);
-            run.append(name).append(Arrays.toString(arguments)).append(" = ").append(want).append('\n');
             calls++;
             if (got != want) {
-                Due.is("run of seed " + seed + ", call " + calls + ": " + name + Arrays.toString(arguments), got, want);
+                Due.is("run of seed " + seed + ", call " + calls + ": " + call, got, want);
                 return;
             }
         }
@@ -95,35 +80,15 @@ public final class ModelTest {
         int sort = wheel.below(3);
         String text = wheel.oneIn(3) ? wheel.spoilt(sort) : wheel.text(sort);
         for (int i = 0; i < text.length(); i += 20) {
-            int[] words = new int[5];
-            for (int j = i; j < Math.min(text.length(), i + 20); j++) {
-                words[(j - i) / 4] |= text.charAt(j) << 24 - (j - i) % 4 * 8;
-            }
-            both("feed", words[0], words[1], words[2], words[3], words[4]);
+            both("feed", (Object[]) Tale.words(text, i));
         }
         if (wheel.oneIn(10)) both("end", wheel.of(0, text.length()));
-        run.append("tape: ").append(text).append('\n');
     }
 
     private void both(String name, Object... arguments) {
-        long want = call(NAIVE.get(name), model, arguments);
-        long got = call(FACE.get(name), horn, arguments);
+        Call call = new Call(name, arguments);
         calls++;
-        Due.is("run of seed " + seed + ": " + name + Arrays.toString(arguments), got, want);
-    }
-
-    private static long call(Method method, Object of, Object[] arguments) {
-        try {
-            Object answer = method.invoke(of, arguments);
-            return answer instanceof Boolean truth ? (truth ? 1 : 0) : (Integer) answer;
-        } catch (InvocationTargetException thrown) {
-            if (method.getName().equals("worth") && thrown.getCause() instanceof NoSuchElementException) {
-                return Long.MIN_VALUE;
-            }
-            throw new IllegalStateException(method.getName() + Arrays.toString(arguments), thrown.getCause());
-        } catch (IllegalAccessException never) {
-            throw new IllegalStateException(never);
-        }
+        Due.is("run of seed " + seed + ": " + call, call.of(horn), call.of(model));
     }
 
     private int law() {
@@ -167,7 +132,7 @@ public final class ModelTest {
     }
 
     private int honestNumber(Object[] aim) {
-        int sum = (int) call(NAIVE.get("sum"), model, with(list(model.count(0)), aim));
+        int sum = (int) new Call("sum", with(list(model.count(0)), aim)).of(model);
         return sum - about + wheel.below(2 * about + 1);
     }
 

@@ -27,11 +27,7 @@ public final class Due {
     /** Puts a text on the TAPE, behind what stands there. */
     public static void feed(HissHorn horn, String text) {
         for (int i = 0; i < text.length(); i += 20) {
-            int[] words = new int[5];
-            for (int j = i; j < Math.min(text.length(), i + 20); j++) {
-                words[(j - i) / 4] |= text.charAt(j) << 24 - (j - i) % 4 * 8;
-            }
-            horn.feed(words[0], words[1], words[2], words[3], words[4]);
+            new Call("feed", (Object[]) Tale.words(text, i)).of(horn);
         }
     }
 
