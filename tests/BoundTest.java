@@ -24,6 +24,7 @@ public final class BoundTest {
         lettersTellTheDayAhead();
         aNumberInCommon();
         soonerOfSeveral();
+        soonerByTwoLetters();
         soonerOrAtAll();
         evenAndOneSide();
         theFirstDayUpToNow();
@@ -251,6 +252,15 @@ public final class BoundTest {
         Due.is("sets of " + number, horn.sets(0), want);
     }
 
+    /** One PART of 10 .. 20 by a LAW below 0, and one READING. */
+    private static void fallingSets(int number, int want) {
+        HissHorn horn = new HissHorn();
+        Due.text(horn, 0, "y:0-100");
+        horn.part(0, 10, 20, 0);
+        horn.read(0, 0, 0, 0, 1, number);
+        Due.is("falling sets of " + number, horn.sets(0), want);
+    }
+
     private static void theFewestParts() {
         Due.is("sets of nothing", new HissHorn().sets(0), 0);
         sets(-1, NONE);
@@ -268,6 +278,14 @@ public final class BoundTest {
         HissHorn none = new HissHorn();
         none.read(0, 0, 0, 0, 1, 1);
         Due.is("sets without PARTS", none.sets(0), NONE);
+        fallingSets(1, NONE);
+        fallingSets(0, 1);
+        fallingSets(-9, 1);
+        fallingSets(-10, 0);
+        fallingSets(-20, 0);
+        fallingSets(-21, 1);
+        fallingSets(-400, 1);
+        fallingSets(-401, NONE);
         HissHorn many = new HissHorn();
         Due.text(many, 0, "y:d<4?100");
         Due.text(many, 0, "y:d>2&d<6?100");
@@ -638,6 +656,47 @@ public final class BoundTest {
         last.days(60);
         last.print(6, true, 1, 1);
         sooner(last, 7, 6, 1, 120);
+    }
+
+    /** A LETTER that another one passes on, which was sent on the DAY behind it or later. */
+    private static void soonerByTwoLetters() {
+        HissHorn first = houses(2);
+        first.print(1, false, 1, 1);
+        first.days(4);
+        first.print(0, true, 1, 1);
+        sooner(first, 1, 0, 1, 4);
+        HissHorn passed = houses(3);
+        passed.days(1);
+        passed.print(1, false, 1, 1);
+        passed.days(3);
+        passed.letter(0, 2);
+        passed.days(1);
+        passed.print(2, true, 1, 1);
+        sooner(passed, 1, 0, 2, 5);
+        HissHorn same = houses(3);
+        same.days(1);
+        same.print(0, false, 1, 1);
+        same.days(3);
+        same.letter(1, 2);
+        same.print(2, true, 1, 1);
+        same.days(2);
+        sooner(same, 0, 1, 2, 4);
+        HissHorn behind = houses(3);
+        behind.days(1);
+        behind.print(0, false, 1, 1);
+        behind.days(1);
+        behind.letter(1, 2);
+        behind.days(1);
+        behind.print(2, true, 1, 1);
+        sooner(behind, 0, 2, 2, 3);
+        HissHorn next = houses(3);
+        next.days(1);
+        next.print(0, false, 1, 1);
+        next.days(2);
+        next.letter(1, 2);
+        next.days(1);
+        next.print(2, true, 1, 1);
+        sooner(next, 0, 1, 2, 4);
     }
 
     private static void soonerOrAtAll() {
