@@ -681,6 +681,13 @@ public final class BoundTest {
         same.print(2, true, 1, 1);
         same.days(2);
         sooner(same, 0, 1, 2, 4);
+        HissHorn all = houses(3);
+        all.days(1);
+        all.print(0, false, 1, 1);
+        all.days(3);
+        for (int i = 0; i < 60; i++) Due.is("letter " + i, all.letter(1, 2), true);
+        all.print(2, true, 1, 1);
+        sooner(all, 0, 1, 2, 4);
         HissHorn behind = houses(3);
         behind.days(1);
         behind.print(0, false, 1, 1);
