@@ -19,13 +19,17 @@ public final class FaceTest {
         "hashCode", "printStackTrace", "getMessage", "package ", "protected ", "static {", "::", "Thread",
         "catch (Exception", "catch (Throwable", "catch (RuntimeException", "catch (IndexOutOfBoundsException",
         "catch (ArithmeticException", "ArrayIndexOutOfBoundsException", "NullPointerException", "ClassCastException",
-        "NegativeArraySizeException", "ArrayStoreException"};
+        "NegativeArraySizeException", "ArrayStoreException", "->", "yield "};
+    private static final Set<String> IMPORTS = Set.of("import java.util.Arrays;",
+        "import java.util.NoSuchElementException;");
+    private static final int LONGEST_METHOD = 60;
 
     public static void main(String[] args) throws IOException {
         methods();
         fieldsAndConstructors();
         insideClasses();
         words();
+        lines();
         Due.end();
     }
 
@@ -81,5 +85,23 @@ public final class FaceTest {
                 Due.is("a sign of the source", source.charAt(i), 127);
             }
         }
+    }
+
+    /** Methods begin and end at the one indent of their class. */
+    private static void lines() throws IOException {
+        int begin = 0;
+        int at = 0;
+        int thrown = 0;
+        for (String line : Files.readAllLines(Path.of("src/main/java/HissHorn.java"))) {
+            at++;
+            if (line.startsWith("import")) Due.is(line + " is of the library", IMPORTS.contains(line), true);
+            if (line.endsWith(") {") && line.matches(" {4}( {4})?[a-zA-Z].*")) begin = at;
+            if (line.matches(" {4}( {4})?}") && begin > 0) {
+                Due.is("the method of line " + begin + " is short", at - begin + 1 <= LONGEST_METHOD, true);
+                begin = 0;
+            }
+            if (line.contains("throw new")) thrown++;
+        }
+        Due.is("only worth throws", thrown, 1);
     }
 }

@@ -274,5 +274,21 @@ public final class ReadingTest {
         Due.is("sets in DAY 4", horn.sets(4), -1);
         Due.is("sets in DAY -1", horn.sets(-1), -1);
         setsBelow();
+        setsOfManyThenOfFew();
+    }
+
+    /** A q with one READING that lacks something, asked behind a q with three. */
+    private static void setsOfManyThenOfFew() {
+        HissHorn horn = new HissHorn();
+        Due.text(horn, 0, "y:100");
+        horn.part(0, 10, 10, 0);
+        horn.read(0, 0, 0, 0, 1, 110);
+        horn.days(1);
+        horn.part(0, 0, 0, 0);
+        horn.read(0, 0, 0, 0, 1, 405);
+        horn.read(0, 0, 0, 0, 1, 510);
+        Due.is("sets of many", horn.sets(1), 3);
+        Due.is("sets of few behind it", horn.sets(0), 1);
+        Due.is("sets of many again", horn.sets(1), 3);
     }
 }

@@ -10,6 +10,11 @@ public final class Tale {
         return this;
     }
 
+    public Tale then(Call call) {
+        calls.add(call);
+        return this;
+    }
+
     /** The same call so many times. */
     public Tale times(int many, String name, Object... arguments) {
         for (int i = 0; i < many; i++) then(name, arguments);
